@@ -1001,24 +1001,29 @@ public final class WrongsDesk {
 
         int body = OFFICE;
         int from = 0;
-        int owes = 0;
+        int owes;
         final int[] sorts = new int[CLAUSES];
         final int[] workingDays = new int[CLAUSES];
         final int[] whens = new int[CLAUSES];
         final int[] starts = new int[CLAUSES];
         final int[] stops = new int[CLAUSES];
-        int reachStart = 0;
-        int reachStop = 0;
-        int limit = 9999;
-        int answer = 30;
-        int scale = 0;
-        int scaleDays = 1;
-        int cap = 9999;
-        int rate = 0;
-        int few = 1;
+        int reachStart;
+        int reachStop;
+        int limit;
+        int answer;
+        int scale;
+        int scaleDays;
+        int cap;
+        int rate;
+        int few;
         final int[] steps = new int[TEXT];
-        int stepCount = 0;
+        int stepCount;
 
+        Law() {
+            clear();
+        }
+
+        /** What counts without clauses; a draft with a FAULT is used again. */
         void clear() {
             owes = 0;
             reachStart = 0;
