@@ -4,6 +4,7 @@ public final class FilesTest {
 
   public static void main(String[] args) {
     entered();
+    tornOnDayZero();
     known();
     full();
     papers();
@@ -25,6 +26,22 @@ public final class FilesTest {
     E.due("file", d.file(0, 9, 5, 99), 1);
     E.due("file", d.file(0, 1, 0, -99), 2);
     E.due("acts", d.count(4), 2);
+  }
+
+  private static void tornOnDayZero() {
+    WrongsDesk d = Expect.desk(0);
+    Expect.law(d, 0, 0, "owe 1 0");
+    d.matter(0, 0, 0, 0, 0);
+    d.papers(0, 0, 0, 1);
+    E.due("torn", d.of(0, 9), 0);
+    d.pass(3);
+    d.papers(0, 0, 0, 1);
+    E.due("torn from the first time on", d.of(0, 9), 0);
+    E.due("open", d.owed(0, 1, 0, 2), 3);
+    E.due("patch", d.patch(0), 1);
+    E.due("lacks", d.owed(0, 1, 0, 2), 2);
+    d.papers(0, 0, 0, 1);
+    E.due("torn anew", d.of(0, 9), 3);
   }
 
   private static void known() {

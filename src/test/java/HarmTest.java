@@ -139,6 +139,9 @@ public final class HarmTest {
     E.due("cause: sort", d.cause(0, -1, 0), -2);
     E.due("cause: wrong", d.cause(0, 0, 4), -2);
     E.due("cause: wrong", d.cause(0, 0, -1), -2);
+    WrongsDesk edges = new WrongsDesk();
+    E.due("cause: the last of each", edges.cause(5, 9, 3), 0);
+    E.due("cause: the first of each", edges.cause(-1, 0, 0), 1);
     int[][] told = {{-1, 0, 0}, {0, 0, 0}, {1, 1, 2}, {-1, 1, 1}, {-1, 2, 3}, {-1, 3, 0}, {2, 0, 0}, {0, 2, 2}};
     for (int n = 0; n < told.length; n++) {
       E.due("cause", d.cause(told[n][0], told[n][1], told[n][2]), n);

@@ -69,7 +69,8 @@ public final class LawsTest {
         {"reach (t1))", 10}, {"reach t1 & t2", 8}, {"reach t1!t2", 8}, {"reach t1(t2)", 8}, {"reach t1;reach", 14},
         {"cap 1;cap 2;cap 3;cap 4;cap 5;cap 6;cap 7;cap 8;cap 9;cap 10;", 60},
         {"cap 1;cap 2;cap 3;cap 4;cap 5;cap 6;cap 7;cap 8;cap 9;cap 10;cap 11", 60}, {"few 1\u00e9", 5}, {"\u0000", 0},
-        {"few \u00b1", 4}};
+        {"few \u00b1", 4}, {"few :", 4}, {"few /", 4}, {"few 1:", 5}, {"few 1/", 5}, {"reach t:", 7}, {"reach a:", 7},
+        {"owe : 1", 4}, {"scale 1 :", 8}, {"scale 1 /", 8}, {"reach w1<9:", 10}, {"few 1:few 1", 5}};
     for (Object[] row : told) {
       E.due("fault of " + row[0], fault((String) row[0]), (Integer) row[1]);
     }

@@ -40,6 +40,8 @@ public final class MattersTest {
     E.due("matter: bad ahead of full", d.matter(0, 0, 0, 9, 0), -2);
     E.due("matter: full", d.matter(0, 0, 0, 0, 0), -4);
     E.due("matters", d.count(3), 40);
+    E.due("of the last", d.of(39, 1), 0);
+    E.due("of: beyond the last", d.of(40, 1), -5);
   }
 
   private static void outOrAsked() {

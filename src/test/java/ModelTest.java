@@ -217,7 +217,7 @@ public final class ModelTest {
     }
     if (chance(4)) {
       int at = random.nextInt(text.length() + 1);
-      String signs = "owe 123;!()|&<>tawldreachlimitscpfny0909  ";
+      String signs = "owe 123;!()|&<>tawldreachlimitscpfny0909  :/";
       switch (random.nextInt(4)) {
         case 0: text.insert(at, signs.charAt(random.nextInt(signs.length()))); break;
         case 1: text.setLength(at); break;
