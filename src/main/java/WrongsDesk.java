@@ -605,9 +605,9 @@ public final class WrongsDesk {
             return 0;
         }
         switch (act) {
-            case 0: return deeds.waits(m, m.kind, x);
-            case 1: return deeds.binds(m, m.kind, x);
-            case 2: return deeds.shows(m, m.kind, x);
+            case 0: return Deeds.waits(deeds, m, m.kind, x);
+            case 1: return Deeds.binds(deeds, m, m.kind, x);
+            case 2: return Deeds.shows(deeds, m, m.kind, x);
             default: return 0;
         }
     }
@@ -1757,32 +1757,32 @@ public final class WrongsDesk {
             ran++;
         }
 
-        int waits(Matter m, int kind, int x) {
+        private static int waits(Deeds run, Matter m, int kind, int x) {
             switch (kind) {
-                case WATCHED: begin(70); return waits(m, FOUND, x) ^ 9;
-                case FOUND: return waits(m, ASKED, x);
-                case SETTLED: return waits(m, ASKED, x);
-                case ASKED: begin(30); return waits(m, MATTER, x) + m.body;
-                case JOINED: begin(60); return waits(m, MATTER, x - 2);
-                default: begin(10); return x + m.number;
+                case WATCHED: run.begin(70); return waits(run, m, FOUND, x) ^ 9;
+                case FOUND: return waits(run, m, ASKED, x);
+                case SETTLED: return waits(run, m, ASKED, x);
+                case ASKED: run.begin(30); return waits(run, m, MATTER, x) + m.body;
+                case JOINED: run.begin(60); return waits(run, m, MATTER, x - 2);
+                default: run.begin(10); return x + m.number;
             }
         }
 
-        int binds(Matter m, int kind, int x) {
+        private static int binds(Deeds run, Matter m, int kind, int x) {
             switch (kind) {
-                case WATCHED: begin(71); return binds(m, FOUND, x) - 1;
-                case FOUND: begin(40); return binds(m, ASKED, x) + waits(m, m.kind, x + 1);
-                case OUT: begin(20); return -binds(m, MATTER, x);
-                default: begin(11); return waits(m, m.kind, x) * 2;
+                case WATCHED: run.begin(71); return binds(run, m, FOUND, x) - 1;
+                case FOUND: run.begin(40); return binds(run, m, ASKED, x) + waits(run, m, m.kind, x + 1);
+                case OUT: run.begin(20); return -binds(run, m, MATTER, x);
+                default: run.begin(11); return waits(run, m, m.kind, x) * 2;
             }
         }
 
-        int shows(Matter m, int kind, int x) {
+        private static int shows(Deeds run, Matter m, int kind, int x) {
             switch (kind) {
-                case WATCHED: return shows(m, FOUND, x);
-                case FOUND: begin(41); return shows(m, ASKED, x) - 5;
-                case SETTLED: begin(50); return waits(m, m.kind, x) * 3;
-                default: begin(12); return binds(m, m.kind, x) ^ m.topic;
+                case WATCHED: return shows(run, m, FOUND, x);
+                case FOUND: run.begin(41); return shows(run, m, ASKED, x) - 5;
+                case SETTLED: run.begin(50); return waits(run, m, m.kind, x) * 3;
+                default: run.begin(12); return binds(run, m, m.kind, x) ^ m.topic;
             }
         }
     }

@@ -14,15 +14,15 @@ public final class ModelTest {
   private static final Map<String, Method> PLAIN = methods(PlainDesk.class);
   private static final Map<String, TreeMap<Long, Integer>> SEEN = new TreeMap<>();
 
+  private static final int CALLS = 512;
+
   private final Random random;
-  private final long seed;
   private final WrongsDesk desk = new WrongsDesk();
   private final PlainDesk plain = new PlainDesk();
   private final List<String> log = new ArrayList<>();
   private boolean same = true;
 
   private ModelTest(long seed) {
-    this.seed = seed;
     this.random = new Random(seed);
   }
 
@@ -72,7 +72,11 @@ public final class ModelTest {
     return text + "(" + answers.size() + ")";
   }
 
+  /** Behind the 512th call what an object answers is free, so nothing is called then. */
   private long call(String name, long... args) throws Exception {
+    if (log.size() >= CALLS || !same) {
+      return 0;
+    }
     long ours = invoke(OURS.get(name), desk, args);
     long due = invoke(PLAIN.get(name), plain, args);
     SEEN.computeIfAbsent(name, n -> new TreeMap<>()).merge(ours, 1, Integer::sum);
@@ -119,13 +123,13 @@ public final class ModelTest {
   }
 
   private int matter() {
-    return odd(random.nextInt(Math.max(1, desk.count(3))));
+    return odd(random.nextInt(Math.max(1, plain.count(3))));
   }
 
   private int kindIs(int kind) {
     for (int tries = 0; tries < 10; tries++) {
-      int m = random.nextInt(Math.max(1, desk.count(3)));
-      if (desk.of(m, 0) == kind) {
+      int m = random.nextInt(Math.max(1, plain.count(3)));
+      if (plain.of(m, 0) == kind) {
         return odd(m);
       }
     }
@@ -133,7 +137,7 @@ public final class ModelTest {
   }
 
   private int today() {
-    return desk.count(0);
+    return plain.count(0);
   }
 
   private int pastDay() {
@@ -261,7 +265,7 @@ public final class ModelTest {
 
   private void tellOrder() throws Exception {
     int tape = tape();
-    int n = desk.count(9);
+    int n = plain.count(9);
     call("tape", tape, chance(15) ? 1 : 0, odd(n + (chance(4) ? from(-1, 2) : 0)));
     List<Integer> order = new ArrayList<>();
     for (int i = 0; i < n; i++) {
@@ -340,10 +344,10 @@ public final class ModelTest {
       tellLaw();
     }
     int plansAt = random.nextInt(3);
-    while (log.size() < 512 && same) {
+    while (log.size() < CALLS && same) {
       int pick = random.nextInt(100);
       if (pick < 9) {
-        call("matter", odd(random.nextInt(Math.max(1, desk.count(2)))), body(), odd(from(0, 2)), pastDay(),
+        call("matter", odd(random.nextInt(Math.max(1, plain.count(2)))), body(), odd(from(0, 2)), pastDay(),
             odd(chance(3) ? from(0, 9999) : from(0, 130)));
       } else if (pick < 12) {
         if (laws < 10) {
@@ -373,7 +377,7 @@ public final class ModelTest {
       case 0: call("feast", chance(3) ? from(0, 9999) : anyDay()); break;
       case 1: call("working", anyDay(), odd(chance(2) ? from(0, 400) : from(0, 9))); break;
       case 2: call("person", odd(from(0, 1))); break;
-      case 3: call("let", odd(random.nextInt(desk.count(2) + 1)), odd(from(0, 1))); break;
+      case 3: call("let", odd(random.nextInt(plain.count(2) + 1)), odd(from(0, 1))); break;
       default: call("pass", odd(chance(9) ? from(1, 400) : from(1, 12))); break;
     }
   }
@@ -412,7 +416,7 @@ public final class ModelTest {
       case 7: call("alike", kindIs(3), kindIs(chance(2) ? 3 : 6)); break;
       case 8: call("unlike", odd(from(0, 2))); break;
       case 9: call("cause", chance(2) ? -1 : body(), odd(from(0, 3)), odd(from(0, 3))); break;
-      case 10: call("reaches", odd(random.nextInt(desk.count(7) + 1)), odd(from(0, 1))); break;
+      case 10: call("reaches", odd(random.nextInt(plain.count(7) + 1)), odd(from(0, 1))); break;
       default: call("fewest"); break;
     }
   }
