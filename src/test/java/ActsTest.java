@@ -6,6 +6,7 @@ public final class ActsTest {
   public static void main(String[] args) {
     bodies();
     traces();
+    numbersApart();
     taken();
     counts();
     tapes();
@@ -95,6 +96,47 @@ public final class ActsTest {
       E.due("act: none", d.act(n[0], n[1], 5), 0);
       E.due("no trace then", d.trace(0), -1);
       E.due("no trace then", d.count(10), 0);
+    }
+  }
+
+  /** Matter 7 + k is of kind k, of body 5 and topic 9: no number of it is that of its kind. */
+  private static void numbersApart() {
+    WrongsDesk d = Expect.desk(10);
+    Expect.law(d, 5, 0, "owe 1 0");
+    for (int m = 0; m < 14; m++) {
+      d.matter(0, m < 7 ? 0 : 5, 9, 0, 9);
+    }
+    Expect.law(d, -1, 0, "reach t0");
+    d.out(8);
+    Expect.law(d, -1, 0, "reach t9");
+    int[] asked = {9, 10, 11, 13};
+    for (int m : asked) {
+      d.ask(m);
+    }
+    d.find(10, 1);
+    d.settle(11);
+    d.join(12, 0);
+    d.find(13, 1);
+    d.watch(13, 1, 20);
+    // with x = 100: n, body and topic are 7 + k, 5 and 9
+    int[][] due = {{107, 214, 214 ^ 9}, {108, -216, -216 ^ 9}, {114, 228, 228 ^ 9}, {115, 230 + 116, (346 ^ 9) - 5},
+        {116, 232, 348}, {110, 220, 220 ^ 9}, {118 ^ 9, (118 ^ 9) * 2 + (119 ^ 9) - 1, 0}};
+    due[6][2] = (due[6][1] ^ 9) - 5;
+    int[][] ran = {{1, 2, 3}, {1, 3, 4}, {2, 3, 4}, {2, 6, 8}, {2, 3, 3}, {2, 3, 4}, {3, 9, 11}};
+    int[][] first = {{10, 11, 12}, {10, 20, 12}, {30, 11, 12}, {30, 40, 41}, {30, 11, 50}, {60, 11, 12}, {70, 71, 41}};
+    for (int k = 0; k < 7; k++) {
+      for (int act = 2; act >= 0; act--) {
+        String call = "T9 act " + act + " of kind " + k;
+        E.due(call, d.act(7 + k, act, 100), due[k][act]);
+        E.due(call + ": bodies that ran", d.count(10), ran[k][act]);
+        E.due(call + ": the first", d.trace(0), first[k][act]);
+        E.due(call + ": the last", d.trace(ran[k][act] - 1), 10);
+      }
+    }
+    d.act(13, 2, 1);
+    d.act(7, 0, 1);
+    for (int i = 1; i < 25; i++) {
+      E.due("P43 nothing is left of a longer trace: " + i, d.trace(i), -1);
     }
   }
 

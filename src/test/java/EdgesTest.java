@@ -18,6 +18,9 @@ public final class EdgesTest {
     promises();
     overdue();
     reachEdges();
+    lawOfTheDay();
+    today();
+    told();
     joins();
     E.close();
   }
@@ -62,6 +65,10 @@ public final class EdgesTest {
     E.due("T1 behind it", d.feast(9996), 2);
     E.due("T1 it is one already", d.feast(9996), -3);
     E.due("T1 which changes nothing", d.count(1), 2);
+    int[] noDays = {-1, -2, -7, 10000, 10001, 10002, 10003};
+    for (int day : noDays) {
+      E.due("P3 no day, though it were off or not: " + day, d.feast(day), -2);
+    }
   }
 
   private static void workingDays() {
@@ -334,6 +341,80 @@ public final class EdgesTest {
     E.due("T3 E holds, but beyond the limit", d.reach(0, 9), 0);
     Expect.law(d, 0, 9, "reach t0;limit 99");
     E.due("T3 a body's law does not count", d.reach(0, 9), 0);
+  }
+
+  /** IN REACH goes by the law of the day that is asked, whether that is ahead of today or behind it. */
+  private static void lawOfTheDay() {
+    WrongsDesk d = Expect.desk(5);
+    d.matter(0, 0, 0, 0, 0);
+    Expect.law(d, -1, 0, "limit 3");
+    Expect.law(d, -1, 4, "limit 6");
+    Expect.law(d, -1, 9, "limit 9");
+    int[] due = {1, 1, 1, 1, 1, 1, 1, 0, 0, 1, 0};
+    for (int day = 0; day < due.length; day++) {
+      E.due("T3 in reach on " + day, d.reach(0, day), due[day]);
+    }
+    Expect.law(d, -1, 0, "limit 0");
+    E.due("T3 ahead of today", d.reach(0, 3), 0);
+    E.due("T3 today", d.reach(0, 5), 1);
+  }
+
+  /** out(), ask() and find() go by today: not by the day on which it happened, nor by that on which it was asked. */
+  private static void today() {
+    WrongsDesk d = Expect.desk(10);
+    Expect.law(d, 0, 0, "owe 1 5");
+    Expect.law(d, -1, 0, "limit 5");
+    int[] happened = {4, 5, 6};
+    for (int day : happened) {
+      d.matter(0, 0, 0, day, 0);
+    }
+    E.due("P10 once in reach, but not today", d.ask(0), -3);
+    E.due("P10 it stays", d.of(0, 0), 0);
+    E.due("P9 out", d.out(0), 1);
+    E.due("P10 in reach for the last time", d.ask(1), 52);
+    E.due("P9 in reach", d.out(2), -3);
+    E.due("P11 not due yet", d.find(1, 0), -3);
+    d.pass(1);
+    E.due("P11 on due", d.find(1, 0), -3);
+    E.due("P10 in reach for the last time", d.ask(2), 53);
+    d.pass(2);
+    E.due("P11 behind due, which it was not when it was asked", d.find(1, 0), 1);
+    d.file(2, 1, 8, 0);
+    E.due("P11 done in time", d.find(2, 0), -3);
+    d.pass(1);
+    E.due("P11 done in time", d.find(2, 0), -3);
+    WrongsDesk later = Expect.desk(10);
+    Expect.law(later, 0, 0, "owe 1 0");
+    later.matter(0, 0, 0, 0, 0);
+    later.ask(0);
+    later.pass(1);
+    later.file(0, 1, 0, 0);
+    E.due("P11 it lacked when it was asked, but not today", later.find(0, 0), -3);
+    E.due("P11 it stays", later.of(0, 0), 2);
+  }
+
+  /** All that of() tells, no two of its numbers the same. */
+  private static void told() {
+    WrongsDesk d = Expect.desk(8);
+    Expect.law(d, 4, 0, "owe 1 0");
+    for (int m = 0; m < 8; m++) {
+      d.matter(0, 0, 0, 0, 0);
+    }
+    d.matter(1, 4, 7, 5, 77);
+    d.matter(1, 4, 7, 5, 77);
+    d.join(9, 6);
+    d.pass(1);
+    d.ask(8);
+    d.pass(1);
+    d.find(8, 555);
+    d.pass(1);
+    d.papers(8, 0, 0, 1);
+    int[] found = {3, 1, 4, 7, 5, 77, 9, 555, -1, 11};
+    int[] joined = {5, 1, 4, 7, 5, 77, -1, -1, 6, -1};
+    for (int what = 0; what < 10; what++) {
+      E.due("P8 of a found one " + what, d.of(8, what), found[what]);
+      E.due("P8 of a joined one " + what, d.of(9, what), joined[what]);
+    }
   }
 
   private static void joins() {

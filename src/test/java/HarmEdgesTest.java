@@ -5,14 +5,19 @@ public final class HarmEdgesTest {
   public static void main(String[] args) {
     wholeDays();
     eachAlone();
+    aheadOfDue();
     atMost();
     wholeYears();
     cutOnce();
     exact();
     officeThen();
     alike();
+    wrongSets();
+    fewerOwed();
+    bodiesAndTopics();
     unlike();
     onlyFound();
+    notDueYet();
     causes();
     oneOwed();
     fewest();
@@ -67,6 +72,17 @@ public final class HarmEdgesTest {
     E.due("T4 one late, one lacks: at most the loss", d.good(0, 20), 100);
     d.papers(0, 0, 0, 1);
     E.due("T4 one that is open adds nothing", d.good(0, 20), 7);
+  }
+
+  private static void aheadOfDue() {
+    WrongsDesk d = one(20, "owe 1 5;owe 2 5;owe 3 5", "scale 7 1", 7, 9999);
+    d.file(0, 1, 17, 0);
+    d.file(0, 3, 14, 0);
+    E.due("T4 two lack nothing yet: on due", d.good(0, 14), 0);
+    d.file(0, 2, 7, 0);
+    E.due("T4 from due on, and one done ahead of it takes nothing away", d.good(0, 20), 21);
+    d.file(0, 1, 8, 0);
+    E.due("T4 all done ahead of due", d.good(0, 20), 0);
   }
 
   private static void atMost() {
@@ -181,6 +197,77 @@ public final class HarmEdgesTest {
     E.due("T4 as known today", d.alike(0, 1), 0);
   }
 
+  /** Each sort with each wrong is alike to itself alone. */
+  private static void wrongSets() {
+    for (int a = 0; a < 18; a++) {
+      for (int b = 0; b < 18; b++) {
+        WrongsDesk d = Expect.desk(9);
+        Expect.law(d, 4, 0, "owe 1 0;owe 2 0;owe 3 0;owe 4 0;owe 5 0;owe 6 0;owe 7 0;owe 8 0;owe 9 0");
+        oneWrong(d, 0, a);
+        oneWrong(d, 1, b);
+        String sorts = "T4 sort " + (a % 9 + 1) + " and sort " + (b % 9 + 1);
+        E.due(sorts, d.alike(0, 1), a == b ? 1 : 0);
+        E.due(sorts + ", unlike", d.unlike(0), a == b ? 1 : 0);
+      }
+    }
+  }
+
+  /** A found matter: below 9 the sort that lacks, less 1; from 9 on the one that is late, less 10. */
+  private static void oneWrong(WrongsDesk d, int number, int wrong) {
+    d.matter(0, 4, 1, 0, 10);
+    for (int sort = 1; sort <= 9; sort++) {
+      if (sort != wrong % 9 + 1) {
+        d.file(number, sort, 0, 0);
+      } else if (wrong >= 9) {
+        d.file(number, sort, 1, 0);
+      }
+    }
+    d.ask(number);
+    E.due("P11 just one is wrong", d.find(number, number), 1);
+  }
+
+  /** The lesser one owes more than the greater one, as an act on its file makes it: nothing of that counts for the other. */
+  private static void fewerOwed() {
+    WrongsDesk d = Expect.desk(9);
+    Expect.law(d, 0, 0, "owe 1 0;owe 2 0 if a5;owe 3 0 if a5");
+    for (int m = 0; m < 3; m++) {
+      d.matter(0, 0, 0, 0, 10);
+      if (m != 1) {
+        d.file(m, 5, 0, 0);
+      }
+      d.ask(m);
+      E.due("P11 find", d.find(m, m), m == 1 ? 1 : 3);
+    }
+    E.due("T4 three lack, and one", d.alike(0, 1), 0);
+    E.due("T4 one lacks, and three", d.alike(1, 2), 0);
+    E.due("T4 three lack, and three", d.alike(0, 2), 1);
+    E.due("P29 twos", d.unlike(0), 1);
+    E.due("P29 the greater", d.unlike(2), 2);
+  }
+
+  private static void bodiesAndTopics() {
+    WrongsDesk d = Expect.desk(9);
+    int[][] told = {{3, 4}, {3, 4}, {5, 4}, {0, 4}, {3, 9}, {3, 0}};
+    Expect.law(d, 0, 0, "owe 1 0");
+    Expect.law(d, 3, 0, "owe 1 0");
+    Expect.law(d, 5, 0, "owe 1 0");
+    for (int m = 0; m < told.length; m++) {
+      d.matter(0, told[m][0], told[m][1], 0, 0);
+      d.ask(m);
+      d.find(m, m);
+    }
+    for (int a = 0; a < told.length; a++) {
+      for (int b = 0; b < told.length; b++) {
+        if (a != b) {
+          E.due("T4 of one body and topic: " + a + " and " + b, d.alike(a, b), a + b == 1 ? 1 : 0);
+        }
+      }
+    }
+    E.due("P29 just these two", d.unlike(0), 1);
+    E.due("P29 the lesser", d.unlike(1), 0);
+    E.due("P29 the greater", d.unlike(2), 1);
+  }
+
   private static void unlike() {
     WrongsDesk d = found(5, 6);
     E.due("P29 one two", d.unlike(0), 1);
@@ -192,6 +279,9 @@ public final class HarmEdgesTest {
     E.due("P29 no greater", d.unlike(2), -1);
     d = found(0, 99999);
     E.due("T4 the least and the greatest award", d.unlike(0), 1);
+    d = found(7, 5, 5);
+    E.due("P29 two of them have the same award, which is not the first one's", d.unlike(0), 2);
+    E.due("P29 the greater", d.unlike(2), 1);
     d = found(4, 4, 4, 5);
     E.due("P29 twos", d.unlike(0), 3);
     E.due("P29 the lesser", d.unlike(1), 0);
@@ -217,6 +307,19 @@ public final class HarmEdgesTest {
     d.ask(2);
     d.ask(3);
     d.settle(3);
+    WrongsDesk last = Expect.desk(21);
+    Expect.law(last, 0, 0, "owe 1 0");
+    last.matter(0, 0, 1, 0, 10);
+    last.matter(0, 0, 1, 0, 10);
+    last.ask(0);
+    last.ask(1);
+    last.find(1, 5);
+    E.due("P29 the lesser one is not found", last.unlike(0), 0);
+    last.file(1, 1, 0, 0);
+    E.due("P29 nor with nothing wrong", last.unlike(0), 0);
+    last.file(0, 1, 0, 0);
+    E.due("P29 nor with nothing wrong in both", last.unlike(0), 0);
+    E.due("P28 alike", last.alike(1, 0), -3);
     E.due("P29 none", d.unlike(0), 0);
     d.file(0, 1, 0, 0);
     d.file(0, 2, 0, 0);
@@ -224,6 +327,34 @@ public final class HarmEdgesTest {
     E.due("P29 no lesser", d.unlike(1), -1);
     for (int m = 1; m < 4; m++) {
       E.due("P28 alike", d.alike(0, m), -3);
+    }
+  }
+
+  /** What is due behind today is no wrong today: not for what is alike, nor for causes. */
+  private static void notDueYet() {
+    WrongsDesk d = Expect.desk(1);
+    Expect.law(d, 0, 0, "owe 1 0;owe 2 9");
+    for (int m = 0; m < 3; m++) {
+      d.matter(0, 0, 0, 0, 0);
+    }
+    for (int m = 0; m < 2; m++) {
+      d.ask(m);
+      E.due("P11 one is wrong", d.find(m, m), 1);
+    }
+    d.file(0, 2, 0, 0);
+    d.cause(0, 2, 0);
+    int[][] due = {{1, 0, 0, 0}, {1, 0, 0, 0}, {0, 1, 1, 1}};
+    int[] days = {1, 11, 12};
+    for (int n = 0; n < days.length; n++) {
+      if (n > 0) {
+        d.pass(days[n] - days[n - 1]);
+      }
+      String today = " on " + days[n];
+      E.due("P28 alike" + today, d.alike(0, 1), due[n][0]);
+      E.due("P29 unlike" + today, d.unlike(0), due[n][0]);
+      E.due("P31 found ones" + today, d.reaches(0, 0), due[n][1]);
+      E.due("P31 others" + today, d.reaches(0, 1), due[n][2]);
+      E.due("P32 fewest" + today, d.fewest(), due[n][3]);
     }
   }
 

@@ -13,6 +13,7 @@ public final class LawEdgesTest {
     lastCounts();
     nothingLeft();
     strict();
+    joined();
     words();
     lawOfTheDay();
     due();
@@ -217,6 +218,20 @@ public final class LawEdgesTest {
     E.due("T3 its owe alone", d.owes(0, 0), 1);
     E.due("T3 its sort", d.owed(0, 0, 0, 0), 3);
     E.due("T3 its due", d.owed(0, 0, 0, 1), 3);
+    E.due("P23 a fault behind reach", Expect.law(d, -1, 0, "reach t9;cap"), -10 - 12);
+    E.due("P23 the next has no E", Expect.law(d, -1, 0, "cap 1"), 2);
+    E.due("T3 reach holds", d.reach(0, 0), 1);
+    E.due("P23 a fault behind reach", Expect.law(d, -1, 0, "reach t9|t9;cap"), -10 - 15);
+    E.due("P23 the next owes alone", Expect.law(d, -1, 0, "owe 1 1 if t9"), 3);
+    E.due("T3 reach holds", d.reach(0, 0), 1);
+    String longest = "reach t9" + "|t9".repeat(50) + "x";
+    for (int n = 0; n < 3; n++) {
+      E.due("P23 a fault at a long text's end", Expect.law(d, -1, 0, longest), -10 - 158);
+    }
+    E.due("P23 the next is read from its beginning on", Expect.law(d, -1, 0, "reach t2|t1&!t3"), 4);
+    E.due("T3 reach holds", d.reach(0, 0), 1);
+    E.due("P23 the next is read from its beginning on", Expect.law(d, -1, 0, "reach t2|t1&t3"), 5);
+    E.due("T3 reach does not hold", d.reach(0, 0), 0);
   }
 
   /** Whether an E holds of a matter of topic 3 and loss 50, on the sixth day behind that on which it happened. */
@@ -250,6 +265,36 @@ public final class LawEdgesTest {
     Expect.law(d, -1, 0, "reach d<1&l<1&!d>0&!l>0");
     E.due("T3 no day, no loss", d.reach(0, 0), 1);
     E.due("T3 one day", d.reach(0, 1), 0);
+  }
+
+  /** & goes ahead of |, and what stands in ( ) ahead of both; t3 holds, t2 does not. */
+  private static void joined() {
+    for (int bits = 0; bits < 16; bits++) {
+      boolean[] v = {(bits & 1) != 0, (bits & 2) != 0, (bits & 4) != 0, (bits & 8) != 0};
+      String[] t = new String[4];
+      for (int i = 0; i < 4; i++) {
+        t[i] = v[i] ? "t3" : "t2";
+      }
+      is(t[0] + "|" + t[1] + "&" + t[2], v[0] || v[1] && v[2]);
+      is(t[0] + "&" + t[1] + "|" + t[2], v[0] && v[1] || v[2]);
+      is(t[0] + "&(" + t[1] + "|" + t[2] + ")", v[0] && (v[1] || v[2]));
+      is("(" + t[0] + "|" + t[1] + ")&" + t[2], (v[0] || v[1]) && v[2]);
+      is(t[0] + "|" + t[1] + "&" + t[2] + "|" + t[3], v[0] || v[1] && v[2] || v[3]);
+      is(t[0] + "&" + t[1] + "|" + t[2] + "&" + t[3], v[0] && v[1] || v[2] && v[3]);
+      is(t[0] + "|" + t[1] + "&" + t[2] + "&" + t[3], v[0] || v[1] && v[2] && v[3]);
+      is(t[0] + "&" + t[1] + "&" + t[2] + "|" + t[3], v[0] && v[1] && v[2] || v[3]);
+      is("!" + t[0] + "&" + t[1], !v[0] && v[1]);
+      is("!" + t[0] + "|" + t[1], !v[0] || v[1]);
+      is("!(" + t[0] + "&" + t[1] + ")|" + t[2], !(v[0] && v[1]) || v[2]);
+      is("!!" + t[0] + "&!!!" + t[1], v[0] && !v[1]);
+      is(t[0] + "|(" + t[1] + "|(" + t[2] + "&!(" + t[3] + "&" + t[0] + ")))", v[0] || v[1] || v[2] && !(v[3] && v[0]));
+      String six = t[0] + "|t3&(" + t[1] + "&t3|t3&(" + t[2] + "|t3&(" + t[3] + "|t3&(t2|t3&(t2|t3&(t2|t3&" + t[0] + "))))))";
+      is(six, v[0] || v[1] || v[2] || v[3]);
+    }
+  }
+
+  private static void is(String e, boolean due) {
+    E.due("T3 " + e, holds(e, 11), due ? 1 : 0);
   }
 
   /** The word of the latest, as known on the day that is asked. */
