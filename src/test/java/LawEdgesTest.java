@@ -224,14 +224,22 @@ public final class LawEdgesTest {
     E.due("P23 a fault behind reach", Expect.law(d, -1, 0, "reach t9|t9;cap"), -10 - 15);
     E.due("P23 the next owes alone", Expect.law(d, -1, 0, "owe 1 1 if t9"), 3);
     E.due("T3 reach holds", d.reach(0, 0), 1);
+    afterLongFaults("reach t2|t1&t3", 0);
+    afterLongFaults("reach t2|t1&!t3", 1);
+    afterLongFaults("owe 1 1;reach t2", 0);
+    afterLongFaults("reach !t2", 1);
+  }
+
+  /** The law told first behind long texts with a FAULT: what they held is gone, so that there is room for its E. */
+  private static void afterLongFaults(String text, int reach) {
+    WrongsDesk d = Expect.desk(0);
+    d.matter(0, 0, 1, 0, 0);
     String longest = "reach t9" + "|t9".repeat(50) + "x";
     for (int n = 0; n < 3; n++) {
       E.due("P23 a fault at a long text's end", Expect.law(d, -1, 0, longest), -10 - 158);
     }
-    E.due("P23 the next is read from its beginning on", Expect.law(d, -1, 0, "reach t2|t1&!t3"), 4);
-    E.due("T3 reach holds", d.reach(0, 0), 1);
-    E.due("P23 the next is read from its beginning on", Expect.law(d, -1, 0, "reach t2|t1&t3"), 5);
-    E.due("T3 reach does not hold", d.reach(0, 0), 0);
+    E.due("P23 '" + text + "' is read from its beginning on", Expect.law(d, -1, 0, text), 0);
+    E.due("T3 whether " + text + " holds", d.reach(0, 0), reach);
   }
 
   /** Whether an E holds of a matter of topic 3 and loss 50, on the sixth day behind that on which it happened. */
